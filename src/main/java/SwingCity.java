@@ -402,17 +402,16 @@ public final class SwingCity {
             return row >= 0 && row < size;
         }
 
-        private boolean hasCell(int row, int column) {
-            return has(row) && column >= 0 && column < width && row * width + column < cells.length;
-        }
-
         int get(int row, int column) {
-            return hasCell(row, column) ? cells[row * width + column] : 0;
+            int cell = row * width + column;
+            boolean isThere = row >= 0 && row < size && column >= 0 && column < width && cell < cells.length;
+            return isThere ? cells[cell] : 0;
         }
 
         void set(int row, int column, int value) {
-            if (hasCell(row, column)) {
-                cells[row * width + column] = value;
+            int cell = row * width + column;
+            if (row >= 0 && row < size && column >= 0 && column < width && cell < cells.length) {
+                cells[cell] = value;
             }
         }
 

@@ -63,7 +63,8 @@ public final class CityTest {
     }
 
     private static void whatIsTold() {
-        SwingCity x = Due.city("  sills 8 ; door 7 9 4;door 0 3 2; door 7 2 9;rope 7 0 9 17;rope 0 7 1 0 ;rider 7 5 99;rider 0 1 0;");
+        SwingCity x = Due.city("  sills 8 ; door 7 9 4;door 0 3 2; door 7 2 9;"
+            + "rope 7 0 9 17;rope 0 7 1 0 ;rider 7 5 99;rider 0 1 0;");
         DUE.is("text is empty", x.count(5), 0);
         int[] counts = {8, 2, 2, 0, 0};
         for (int what = 0; what < counts.length; what++) {
@@ -122,6 +123,8 @@ public final class CityTest {
             {"rider 0 1;", 9}, {"riders 0 1 1;", 0}, {"rope 0 1 1 0;".repeat(9), 104},
             {"rider 0 1 0;".repeat(5), 48}, {"rope 0 1 1 0;".repeat(8) + " rope", 105},
             {"door 0 1 1;door 9 1 1;sills 1;", 16}, {"sills 4;door", 12},
+            {"sillsz 2;", 0}, {"sillsa 2;", 0}, {"xope 0 1 1 0;", 0}, {"sills 2?", 7}, {"sills 2 door 0 1 1;", 8},
+            {"door 0 rope 1;", 7}, {"4 2;", 0}, {"sills{2;", 5}, {"sills`2;", 5}, {"sills /2;", 6}, {"sills :2;", 6},
         };
         for (Object[] f : faults) {
             DUE.is("'" + f[0] + "'", Due.read((String) f[0]), -10 - (Integer) f[1]);
@@ -148,11 +151,12 @@ public final class CityTest {
     }
 
     private static void readAnew() {
-        SwingCity x = Due.city("sills 8;door 1 3 1;rope 0 1 2 3;rider 0 1 5;rider 1 1 5;");
+        SwingCity x = Due.city("sills 8;door 1 3 1;rope 0 1 2 3;rider 0 1 5;rider 0 1 5;");
         x.stop(0);
         x.push(0, 0);
         x.go(0, 0);
         x.go(1, 0);
+        DUE.is("they met", x.meets(), 1);
         x.saw(1, 7);
         x.keep(0);
         x.keep(1);

@@ -23,7 +23,6 @@ public final class KindsTest {
         DUE.is("refused ones leave no trace", x.trace(), trace);
         x.push(1, 5);
         DUE.is("one is stopped", x.rate(5, 1), 11);
-        DUE.is("below 0", Due.city("rider 0 1 0;").rate(2, 0), 0);
         x.waits(1, 99);
         DUE.is("10 less 99", x.rate(2, 1), -89);
         DUE.is("trace()", x.trace(), trace + 100001 + 101);

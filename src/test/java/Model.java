@@ -288,7 +288,7 @@ final class Model {
         return past.size();
     }
 
-    /** Whether there is a half minute in which both were on the rope. */
+    /** Whether there is a minute, from its beginning to its end, in which both were on the rope. */
     private static boolean shareTime(int[] one, int[] other) {
         for (int t = 0; t < 1000; t++) {
             if (one[2] <= t && t < one[3] && other[2] <= t && t < other[3]) {

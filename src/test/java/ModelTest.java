@@ -44,11 +44,12 @@ public final class ModelTest {
         for (int i = from(1, 8); i > 0; i--) {
             int a = from(0, sills - 1);
             int b = (a + from(1, sills - 1)) % sills;
-            text.append("rope ").append(a).append(' ').append(b).append(' ').append(from(1, random.nextBoolean() ? 9 : 3))
-                .append(' ').append(from(0, 17)).append(random.nextInt(3) == 0 ? " ; " : ";");
+            text.append("rope ").append(a).append(' ').append(b).append(' ')
+                .append(from(1, random.nextBoolean() ? 9 : 3)).append(' ').append(from(0, 17)).append(random.nextInt(3) == 0 ? " ; " : ";");
         }
         for (int i = from(1, 4); i > 0; i--) {
-            text.append("rider ").append(from(0, sills - 1)).append(' ').append(from(1, 5)).append(' ').append(from(0, 99)).append(';');
+            text.append("rider ").append(from(0, sills - 1)).append(' ').append(from(1, 5)).append(' ')
+                .append(from(0, 99)).append(';');
         }
         return text.toString();
     }

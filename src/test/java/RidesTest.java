@@ -18,7 +18,8 @@ public final class RidesTest {
 
     // The rope is at 0 in 1, 5, 9 .. (never when door 0 is open), at 1 in 3, 7, 11, 15 .. (door 1: 3, 15 ..).
     private static void going() {
-        SwingCity x = Due.city("sills 3;door 0 2 1;door 1 3 1;rope 0 1 2 1;rope 1 2 1 0;rider 0 1 10;rider 0 5 1;rider 1 2 50;");
+        SwingCity x = Due.city("sills 3;door 0 2 1;door 1 3 1;rope 0 1 2 1;rope 1 2 1 0;"
+            + "rider 0 1 10;rider 0 5 1;rider 1 2 50;");
         DUE.is("lets go at an open door", x.go(0, 0), 3);
         riderIs("let go", x, 0, 1, 3, 1, 8, 0);
         DUE.is("takes it in this minute, falls", x.go(0, 0), 1005);
@@ -166,6 +167,12 @@ public final class RidesTest {
         x.waits(3, 1);
         x.go(3, 0);
         DUE.is("waited on the sill: 8 to 10", x.meets(), 1);
+        SwingCity z = Due.city("sills 2;rope 0 1 2 0;rider 1 1 9;rider 0 1 9;rider 1 1 9;");
+        DUE.is("the later ride, told first", z.go(0, 0), 4);
+        DUE.is("the sooner ride, told then", z.go(1, 0), 2);
+        DUE.is("one ends when the other is taken", z.meets(), 0);
+        z.go(2, 0);
+        DUE.is("the first and the third", z.meets(), 1);
         SwingCity y = Due.city("sills 2;rope 0 1 2 0;rider 0 1 9;rider 0 1 9;rider 0 1 9;rider 0 1 9;");
         for (int r = 0; r < 4; r++) {
             y.go(r, 0);

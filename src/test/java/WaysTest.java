@@ -38,8 +38,11 @@ public final class WaysTest {
         for (String city : cities) {
             soonestIs(Due.city(city), 0, 0, 2, 2, 1);
         }
-        SwingCity far = Due.city("sills 8;rope 6 7 1 0;rope 5 6 1 0;rope 4 5 1 0;rope 3 4 1 0;rope 2 3 1 0;rope 1 2 1 0;rope 0 1 1 0;");
+        SwingCity far = Due.city("sills 8;rope 6 7 1 0;rope 5 6 1 0;rope 4 5 1 0;rope 3 4 1 0;"
+            + "rope 2 3 1 0;rope 1 2 1 0;rope 0 1 1 0;");
         soonestIs(far, 0, 0, 7, 13, 7);
+        soonestIs(far, 7, 1, 0, 14, 7);
+        soonestIs(Due.city("sills 3;rope 1 2 1 0;"), 1, 0, 0, NONE, NONE);
         SwingCity late = Due.city("sills 2;rope 0 1 1 0;");
         soonestIs(late, 0, 998, 1, 999, 1);
         soonestIs(late, 0, 999, 1, NONE, NONE);
@@ -125,7 +128,10 @@ public final class WaysTest {
         driftIs(y, 11, 2, NONE, NONE);
         SwingCity z = Due.city("sills 5;rope 0 1 1 0;rope 1 2 1 1;rope 2 3 1 2;rope 3 4 1 3;");
         driftIs(z, 1234, 0, 4, 4);
-        DUE.is("four unlike ropes, least", z.drift(1, 0, 0, 1234, 2, 0), 4);
+        // At the latest 3 on sill 1, 10 on 2, 17 on 3.
+        driftIs(z, 12, 2, 2, 10);
+        driftIs(z, 123, 2, 3, 17);
+        driftIs(z, 1234, 2, 4, 24);
     }
 
     // Door 1: 9, 18, 27; the rope comes there in 4 and its beat, and each two beats more.
@@ -185,7 +191,8 @@ public final class WaysTest {
     // Both ropes leave 0 in 1, 5, 9, come to 1 in 3, 7, 11, and so back.
     private static void fitting() {
         String city = "sills 3;rope 0 1 2 1;rope 0 1 2 1;";
-        int[][] seen = {{0, 0}, {0, 1}, {0, 2}, {1, 2}, {1, 3}, {1, 4}, {0, 5}, {1, 7}, {0, 9}, {0, 999}, {1, 999}, {2, 0}};
+        int[][] seen = {{0, 0}, {0, 1}, {0, 2}, {1, 2}, {1, 3}, {1, 4}, {0, 5}, {1, 7}, {0, 9}, {0, 999}, {1, 999},
+            {2, 0}};
         int[][] rows = {{1, 2, 4, 8, 16}, {1, 2, 4, 8, 16}, {1, 0, 0, 0, 0}, {0, 0, 0, 0, 0}, {0, 2, 4, 8, 16},
             {0, 2, 0, 0, 0}, {1, 0, 4, 8, 16}, {0, 2, 0, 8, 16}, {1, 0, 4, 0, 16}, {1, 0, 4, 0, 16}, {0, 2, 0, 8, 0},
             {0, 0, 0, 0, 0}};
