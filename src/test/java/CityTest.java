@@ -179,8 +179,11 @@ public final class CityTest {
     }
 
     private static void doors() {
-        SwingCity x = Due.city("sills 4;door 0 9 1;door 1 3 2;door 2 2 9;");
+        String city = "sills 4;door 0 9 1;door 1 3 2;door 2 2 9;";
+        SwingCity x = Due.city(city);
         for (int t = 0; t < 1000; t++) {
+            // An object is used for at most 512 calls.
+            x = t % 100 == 0 ? Due.city(city) : x;
             DUE.is("open(0, " + t + ")", x.open(0, t), t % 9 == 0 ? 1 : 0);
             DUE.is("open(1, " + t + ")", x.open(1, t), t % 3 == 2 ? 0 : 1);
             DUE.is("open(2, " + t + ")", x.open(2, t), 1);
