@@ -217,7 +217,7 @@ final class WayEdges {
         driftIs(x, 0, 1234, 2, 4, 24);
         driftIs(x, 0, 1234, 0, 4, 4);
         due.is("BEAT is as it was", x.rope(0, 2), 1);
-        // Each by itself: the first one by 2 more, the second by 1 more, which has left sill 1 in 3 then, and is back in 9.
+        // Each by itself: the first by 2 more, ending in 4; the second by 1 more, at sill 1 in 3 and then in 9.
         driftIs(Due.city("sills 2;rope 0 1 2 0;rope 0 1 2 0;"), 0, 12, 2, 4, 12);
     }
 
@@ -262,7 +262,7 @@ final class WayEdges {
 
     // ---- Terms, section 3: TUNE
 
-    // Sill 1 is open in 0, 8, 16: from START 0 only a BEAT of 8 comes there. (One of 9 comes nowhere that one of 1 does not.)
+    // Sill 1 is open in 0, 8, 16: from START 0 only a BEAT of 8 comes there. One of 9 comes where one of 1 does, too.
     private void tunedBeatIsOneToNine() {
         due.by("Terms", "TUNE of a ROPE: the BEAT (1 .. 9) by which SOONEST is least");
         SwingCity x = Due.city("sills 3;door 1 8 1;rope 0 1 3 0;rope 0 2 3 0;");
