@@ -217,6 +217,11 @@ final class WayEdges {
         driftIs(x, 0, 1234, 2, 4, 24);
         driftIs(x, 0, 1234, 0, 4, 4);
         due.is("BEAT is as it was", x.rope(0, 2), 1);
+        // The same four behind another rope, that is not told.
+        SwingCity y = Due.city("sills 5;rope 0 4 9 0;rope 0 1 1 0;rope 1 2 1 1;rope 2 3 1 2;rope 3 4 1 3;");
+        driftIs(y, 0, 2345, 2, 4, 24);
+        driftIs(y, 0, 1, 2, 9, 11);
+        driftIs(y, 0, 2345, 2, 4, 24);
         // Each by itself: the first by 2 more, ending in 4; the second by 1 more, at sill 1 in 3 and then in 9.
         driftIs(Due.city("sills 2;rope 0 1 2 0;rope 0 1 2 0;"), 0, 12, 2, 4, 12);
     }
